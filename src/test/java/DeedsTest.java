@@ -15,6 +15,7 @@ public final class DeedsTest {
         drifted();
         driftedBySteps();
         undone();
+        undoneTenLinks();
         undoneAtMost();
         DUE.end();
     }
@@ -107,6 +108,10 @@ public final class DeedsTest {
         LinkedIsles y = Due.isles("s2;l0 1 0 4 0 0;w4;");
         y.hour(1);
         DUE.is("11: strain is just strength", Due.NOT, y.doUp(0));
+        LinkedIsles z = Due.isles("s2;l0 1 0 5 0 0;w4;");
+        z.hour(1);
+        z.undoLink(0);
+        DUE.is("11: strain is 1 less", 1, z.doUp(0));
     }
 
     private static void turned() {
@@ -150,6 +155,12 @@ public final class DeedsTest {
         x.hour(1);
         DUE.is("14: not held", 13, x.link(0, 4));
         DUE.is("14: told(12)", 6, x.told(12));
+        LinkedIsles y = Due.isles("s2;l0 1 3 99 0 0;l0 1 3 99 0 0;");
+        y.hold(0, true);
+        y.hold(1, true);
+        y.hold(1, false);
+        DUE.is("14: the one", 0, y.link(1, 7));
+        DUE.is("14: and the other", 1, y.link(0, 7));
         String before = Due.all(x);
         DUE.is("14: hold(1, true)", Due.NOT, x.hold(1, true));
         DUE.is("14: hold(2, true)", Due.UNKNOWN, x.hold(2, true));
@@ -180,6 +191,9 @@ public final class DeedsTest {
         DUE.is("16: no draw", 5, x.seed(5));
         DUE.is("16: told(4)", 3, x.told(4));
         DUE.is("16: told(12)", 3, x.told(12));
+        LinkedIsles y = Due.isles("s2;l0 1 0 99 1 2;");
+        y.drift(1);
+        DUE.is("16: one link is drawn for, too", 1, y.seed(0) == 0 ? 0 : 1);
     }
 
     /** The document's draws told again, by long arithmetic, against one drift of many hours. */
@@ -253,6 +267,21 @@ public final class DeedsTest {
         x.undo(1);
         DUE.is("17: what was heard stays", 1, x.told(10));
         DUE.is("17: the book stays", 1, x.told(11));
+    }
+
+    private static void undoneTenLinks() {
+        LinkedIsles x = Due.isles("s8;" + "l0 7 0 99 1 2;".repeat(10) + "w7;");
+        x.hour(2);
+        x.hour(1);
+        x.undo(1);
+        for (int l = 0; l < 10; l++) {
+            DUE.is("17: strain of " + l, 14, x.link(l, 4));
+        }
+        Due.feed(x, "s8;" + "l0 7 0 99 1 2;".repeat(10));
+        x.sea();
+        for (int l = 0; l < 10; l++) {
+            DUE.is("3: strain of " + l, 0, x.link(l, 4));
+        }
     }
 
     private static void undoneAtMost() {

@@ -42,6 +42,10 @@ public final class HeardTest {
         x.tear();
         x.hear(0, 3, true);
         DUE.is("33: none fits, too", 1024 + 23, x.traitor());
+        x.hear(3, 4, true);
+        DUE.is("33: all that is heard", 1024 + 7, x.traitor());
+        x.tear();
+        x.hear(0, 3, true);
         x.undoLink(0);
         DUE.is("33: of those that are done up now", 1024 + 18, x.traitor());
         x.undoLink(2);
@@ -70,6 +74,10 @@ public final class HeardTest {
         row.hear(0, 3, true);
         DUE.is("34: of 2 links and none", 4, row.ask());
         DUE.is("34: no links", Due.NONE, Due.isles("s4;").ask());
+        LinkedIsles away = Due.isles("s5;l3 4 0 9 1 1;l4 2 0 9 1 1;");
+        DUE.is("34: neither of two is the first island", 23, away.ask());
+        LinkedIsles side = Due.isles("s5;l3 1 0 9 1 1;");
+        DUE.is("34: one link, or none", 13, side.ask());
     }
 
     private static void book() {

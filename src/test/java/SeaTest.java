@@ -243,6 +243,8 @@ public final class SeaTest {
         DUE.is("5: alone in a ring with a tail", 8, ring.told(8));
         ring.undoLink(0);
         DUE.is("5: alone in a row", 14, ring.told(8));
+        LinkedIsles eight = Due.isles("s8;l7 0 0 9 1 2;l7 1 0 9 3 2;");
+        DUE.is("5: the last of eight clashes", 128, eight.told(9));
         LinkedIsles twins = Due.isles("s2;l0 1 0 9 1 1;l1 0 0 9 1 1;");
         DUE.is("5: twins are not alone", 0, twins.told(8));
     }
@@ -296,6 +298,14 @@ public final class SeaTest {
         DUE.is("8: wind(0) behind 4", 7, x.wind(0));
         DUE.is("8: wind(1) behind 4", 2, x.wind(1));
         DUE.is("8: wind(0) untold", 0, Due.isles("s2;").wind(0));
+        Due.feed(x, "s2;w9;");
+        x.sea();
+        Due.feed(x, "s2;");
+        x.sea();
+        Due.feed(x, "s2;");
+        x.sea();
+        DUE.is("8: winds of an earlier sea are gone", 0, x.wind(0));
+        DUE.is("5: and their number", 0, x.told(2));
         DUE.is("8: wind(0) without a sea", Due.NOT, new LinkedIsles().wind(0));
         DUE.is("8: wind(61) without a sea", Due.OUTSIDE, new LinkedIsles().wind(61));
     }

@@ -96,6 +96,8 @@ public final class TriedTest {
         DUE.is("21: parts(61)", Due.OUTSIDE, x.parts(61));
         DUE.is("21: parts(-1)", Due.OUTSIDE, x.parts(-1));
         DUE.is("21: no links", 8, Due.isles("s8;").parts(0));
+        DUE.is("21: parts that lie among one another", 2, Due.isles("s4;l0 2 0 9 0 0;l1 3 0 9 0 0;").parts(0));
+        DUE.is("21: one around another", 2, Due.isles("s4;l0 3 0 9 0 0;l1 2 0 9 0 0;").parts(0));
     }
 
     private static void hangingTogether() {
@@ -170,6 +172,10 @@ public final class TriedTest {
         x.undoLink(1);
         DUE.is("25: of those that are done up", 4, x.widest(0, 2));
         DUE.is("25: widest(0, 3)", Due.NONE, x.widest(0, 3));
+        LinkedIsles y = Due.isles("s3;l0 1 0 5 0 0;l1 2 0 9 0 0;l1 0 0 7 0 0;");
+        DUE.is("25: the least on the way", 7, y.widest(0, 2));
+        y.undoLink(2);
+        DUE.is("25: the first link, too", 5, y.widest(0, 2));
         DUE.is("25: widest(1, 1)", Due.UNKNOWN, x.widest(1, 1));
         DUE.is("25: widest(0, 4)", Due.UNKNOWN, x.widest(0, 4));
         DUE.is("25: widest(-1, 4)", Due.UNKNOWN, x.widest(-1, 4));
@@ -220,6 +226,16 @@ public final class TriedTest {
         DUE.is("27: what is undone is not asked for", 1, x.keepUp(2, 1));
         DUE.is("27: behind 0", 0, x.keepUp(0, 0));
         DUE.is("27: no wind", 0, Due.isles("s2;l0 1 0 1 0 0;").keepUp(60, 1));
+        LinkedIsles y = Due.isles("s8;l0 1 0 99 0 0;l1 2 0 99 0 0;l2 3 0 99 0 0;l3 4 0 99 0 0;l4 5 0 99 0 0;l5 6 0 99 0 0;"
+            + "l0 1 1 99 0 0;l1 2 1 99 0 0;l2 3 1 99 0 0;l6 7 0 9 0 0;w5;");
+        y.hour(1);
+        DUE.is("27: the tenth link", 512, y.keepUp(1, 1));
+        DUE.is("27: the tenth link does not hold", Due.NONE, y.keepUp(2, 1));
+        y.hour(18);
+        DUE.is("27: what is gone", 64 + 128 + 256 + 63, y.told(7));
+        // 95 of 99: each of the links without a twin is mended.
+        DUE.is("27: three", 3, y.keepUp(1, 0));
+        DUE.is("27: which", 8 + 16 + 32, y.keepUp(1, 1));
     }
 
     private static void agreed() {
@@ -285,6 +301,11 @@ public final class TriedTest {
         DUE.is("30: share(0, 2)", Due.OUTSIDE, x.share(0, 2));
         DUE.is("30: share(0, -1)", Due.OUTSIDE, x.share(0, -1));
         DUE.is("30: silver stays", 3, x.told(5));
+        LinkedIsles y = Due.isles("s2;" + "l0 1 0 90 0 0;".repeat(10) + "w4;");
+        y.hour(1);
+        DUE.is("30: ten of ten", 1023, y.share(10, 1));
+        DUE.is("30: nine of ten", 511, y.share(9, 1));
+        DUE.is("30: one is left over", 1, y.share(11, 0));
     }
 
     private static void calmHours() {
