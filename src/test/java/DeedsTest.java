@@ -68,11 +68,11 @@ public final class DeedsTest {
             x.hour(30);
         }
         DUE.is("9: told(4)", 90000, x.told(4));
-        DUE.is("9: 90000 is not above it", 0, x.hour(30));
+        DUE.is("9: 90000 is not above it", 0, x.hour(1));
         DUE.is("9: hour(1) above 90000", Due.FULL, x.hour(1));
         DUE.is("9: hour(31) above 90000", Due.OUTSIDE, x.hour(31));
         DUE.is("16: drift(1) above 90000", Due.FULL, x.drift(1));
-        DUE.is("9: told(4)", 90030, x.told(4));
+        DUE.is("9: told(4)", 90001, x.told(4));
     }
 
     private static void undoneByHand() {
