@@ -20,6 +20,7 @@ public final class DeedEdgesTest {
         silverAtMost();
         heldByKind();
         readingEdges();
+        readingOfHeld();
         clashes();
         undoneAgainOneByOne();
         undoneAgainAtMost();
@@ -79,6 +80,8 @@ public final class DeedEdgesTest {
         DUE.is("2: STRAIN of what is UNDONE stays", 116, x.link(0, 4));
         DUE.is("11: doUp(0)", Due.NOT, x.doUp(0));
         DUE.is("5: it BROKE once", 1, x.told(6));
+        DUE.is("13: MENDED for 1, whatever the STRAIN is", 2, x.mend(0));
+        DUE.is("2: STRAIN 0", 0, x.link(0, 4));
     }
 
     private static void breaksAtStrength() {
@@ -331,6 +334,18 @@ public final class DeedEdgesTest {
         x.hour(1);
         DUE.is("7: BROKEN", Due.NONE, x.reads(0, 0));
         DUE.is("7: reads(8, 0), though it is UNDONE", Due.UNKNOWN, x.reads(8, 0));
+    }
+
+    /** What is HELD or strained is READ as what is not. */
+    private static void readingOfHeld() {
+        LinkedIsles x = Due.isles("s2;l0 1 3 9 4 5;w5;");
+        x.hold(0, true);
+        x.hour(2);
+        DUE.is("7: A READS a HELD one", 4, x.reads(0, 0));
+        DUE.is("7: B READS a HELD one", 5, x.reads(1, 0));
+        x.turn(0);
+        DUE.is("7: TURNED, A", 5, x.reads(0, 0));
+        DUE.is("7: TURNED, B", 4, x.reads(1, 0));
     }
 
     private static void clashes() {

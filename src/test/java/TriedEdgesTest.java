@@ -22,6 +22,7 @@ public final class TriedEdgesTest {
         farthest();
         keepNow();
         keepBounds();
+        keepHeld();
         keepOfLikeOnes();
         agree();
         agreeOfLikeOnes();
@@ -342,6 +343,19 @@ public final class TriedEdgesTest {
         DUE.is("27: seven keep eight together, SILVER or not", 7, ten.keepUp(1, 0));
         // Bits 0 .. 6 are the row itself: the least SET that has all.
         DUE.is("27: the least SET of seven", 127, ten.keepUp(1, 1));
+    }
+
+    /** A stud that is MENDED goes on as it is: by 3 an HOUR while it is HELD, by 6 if not. */
+    private static void keepHeld() {
+        LinkedIsles x = Due.isles("s2;l0 1 3 10 0 0;w6;");
+        x.hold(0, true);
+        x.hour(2);
+        DUE.is("27: HELD, it holds for 1", 0, x.keepUp(1, 1));
+        DUE.is("27: HELD and MENDED, it holds for 3", 1, x.keepUp(3, 1));
+        DUE.is("27: HELD and MENDED, it BREAKS behind 4", Due.NONE, x.keepUp(4, 1));
+        x.hold(0, false);
+        DUE.is("27: MENDED, it holds for 1", 1, x.keepUp(1, 1));
+        DUE.is("27: MENDED, it BREAKS behind 2", Due.NONE, x.keepUp(2, 1));
     }
 
     private static void keepOfLikeOnes() {
